@@ -454,6 +454,8 @@ public final class MomentTexts {
         /** So many whole cycles of 400 years make every year that is reckoned one above 0. */
         static final long SHIFT_YEARS = 2000000;
         static final long SHIFT_DAYS = 731204528;
+        /** Whole weeks that make every day that is reckoned one above 0. */
+        static final long SHIFT_WEEKDAYS = 7 * SHIFT_DAYS;
         static final long CYCLE_YEARS = 400;
         static final long CYCLE_DAYS = 146097;
 
@@ -556,7 +558,7 @@ public final class MomentTexts {
         }
 
         static int weekdayOf(long day) {
-            return (int) Math.floorMod(day + 3, 7L) + 1;
+            return (int) ((day + SHIFT_WEEKDAYS + 3) % 7) + 1;
         }
 
         /** The Thursday of a day's week: its year is the week year. */
@@ -746,12 +748,14 @@ public final class MomentTexts {
         }
 
         static int insert(long instant, long[] found, int size) {
+            if (size < 0 || size >= found.length) {
+                return size;
+            }
             int place = 0;
             while (place < size && found[place] < instant) {
                 place++;
             }
-            boolean known = place < size && found[place] == instant;
-            if (known || size < 0 || size >= found.length) {
+            if (place < size && found[place] == instant) {
                 return size;
             }
             for (int i = size; i > place; i--) {
@@ -975,8 +979,8 @@ public final class MomentTexts {
             } else if (number >= 1 && number <= 12) {
                 int before = Days.BEFORE_MONTH[number - 1] + (leapYear && number > 2 ? 1 : 0);
                 int behind = Days.BEFORE_MONTH[number] + (leapYear && number >= 2 ? 1 : 0);
-                // Whole weeks are added to keep what is divided above 0; day 0 is weekday 4 from Sunday.
-                int startWeekday = (int) ((yearStart + before + 7 * Days.SHIFT_DAYS + 4) % 7);
+                // Weekdays are counted from Sunday here: day 0 is a 4.
+                int startWeekday = (int) ((yearStart + before + Days.SHIFT_WEEKDAYS + 4) % 7);
                 place = before + (weekday - startWeekday + 7) % 7 + 7 * (week - 1);
                 place = place < behind ? place : place - 7;
             }
