@@ -815,7 +815,6 @@ public final class MomentTexts {
         /** Reads a rule: NONE, or the place of its FAULT. */
         long scan(Cursor c) {
             c.start();
-            turned = false;
             names = 1;
             scanName(c);
             int sign = scanSign(c);
@@ -1186,10 +1185,7 @@ public final class MomentTexts {
         /** YYYY-MM-DD alone, as RFC 3339 has it. */
         void scanFull(Cursor c) {
             kind = MONTH_AND_DAY;
-            dashed = true;
-            signed = false;
             negative = false;
-            yearAt = c.at;
             year = c.number(4, 4);
             c.need('-');
             middleAt = c.at;
@@ -1320,7 +1316,6 @@ public final class MomentTexts {
             minutes = 0;
             seconds = 0;
             part = 0;
-            unit = 1;
             manner = -1;
             negative = false;
             offsetHours = 0;

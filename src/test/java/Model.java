@@ -74,6 +74,11 @@ final class Model {
             return date.toEpochDay() * 1440 + (m.group(group + 6) == null ? 120 : clock(m, group + 6));
         }
 
+        /** The minute of UTC at which the second offset begins to count in a year. */
+        long fromMinute(int asked) {
+            return dateMinute(rule, 7, asked) - ruleFirst;
+        }
+
         int offsetByRule(long minute) {
             if (rule.group(7) == null) {
                 return ruleFirst;

@@ -117,6 +117,8 @@ public final class WritesTest {
         duration(x, 0, 0, 59, 0, "PT59S");
         duration(x, 0, 0, 0, 1, "PT0.000000001S");
         duration(x, 1, 0, 0, 500000000, "P1MT0.5S");
+        duration(x, 1, 0, 0, 1, "P1MT0.000000001S");
+        duration(x, 0, 1, 1, 0, "P1DT1S");
         duration(x, 0, 1, 3601, 120000000, "P1DT1H1.12S");
         duration(x, 0, 0, 3600, 10, "PT1H0.00000001S");
         duration(x, 999999999, 999999999, 3599999999999L, 999999999,

@@ -15,13 +15,19 @@ public final class ZonesTest {
         likeJavaTime("Australia/Sydney", "AEST-10AEDT,M10.1.0,M4.1.0/3");
         likeJavaTime("Asia/Kolkata", "<+0530>-5:30");
         ruleBehindChanges();
+        ruleBehindAllChanges();
+        rulesInTurn();
+        ruleDates();
+        ruleEdges();
         nextLimit();
         skippedAndTwice();
+        changesInARow();
+        wholeOnes();
         leapSeconds();
         edges();
         wrongCalls();
         Random random = new Random(3);
-        for (int run = 0; run < 60; run++) {
+        for (int run = 0; run < 70; run++) {
             new RandomZones(random, run).run();
         }
         Check.end();
@@ -122,6 +128,94 @@ public final class ZonesTest {
         Check.due("the rule behind it", 20, () -> x.offset(0, 3000));
     }
 
+    private static void ruleBehindAllChanges() {
+        MomentTexts x = new MomentTexts();
+        x.zone(0);
+        for (int i = 0; i < 60; i++) {
+            x.change(0, 1000L * i, 100 + i);
+        }
+        Check.text(x, "AAA-5BBB,J100,J200");
+        Check.due("a rule", Check.NONE, () -> x.rule(0));
+        Check.due("before all changes", 0, () -> x.offset(0, -1));
+        Check.due("before the last change", 158, () -> x.offset(0, 58999));
+        Check.due("at the last change", 300, () -> x.offset(0, 59000));
+        Check.due("the last change is the next one", 59000, () -> x.next(0, 58000));
+        Check.due("then the rule", x.day(1970, 4, 10) * 86400 - 3 * 3600, () -> x.next(0, 59000));
+        x.zone(0);
+        x.change(1, x.day(1975, 1, 15) * 86400, 60);
+        Check.text(x, "AAA0BBB,M3.1.0,M10.1.0");
+        x.rule(1);
+        Check.due("the rule does not count before the last change", x.day(1975, 3, 2) * 86400 + 7200,
+            () -> x.next(1, x.day(1974, 1, 1) * 86400));
+    }
+
+    private static void rulesInTurn() {
+        MomentTexts x = new MomentTexts();
+        x.zone(0);
+        Check.text(x, "AAA0BBB,M3.1.0,M10.1.0");
+        x.rule(0);
+        long summer = x.day(2024, 7, 1) * 86400;
+        Check.due("by the first rule", 60, () -> x.offset(0, summer));
+        Check.due("of year 0", 0, () -> x.offset(0, x.day(0, 1, 1) * 86400));
+        Check.due("of year 0 in summer", 60, () -> x.offset(0, x.day(0, 7, 1) * 86400));
+        Check.text(x, "AAA0BBB,M10.1.0,M3.1.0");
+        x.rule(0);
+        Check.due("by the second rule", 0, () -> x.offset(0, x.day(0, 7, 1) * 86400));
+        Check.due("by the second rule later", 0, () -> x.offset(0, summer));
+        Check.text(x, "AAA0BBB,M3.1.0,M10.1.7");
+        Check.due("a fault", 21, () -> x.rule(0));
+        Check.due("the second rule stays", 0, () -> x.offset(0, summer));
+    }
+
+    /** Every date that a rule can have: the second offset begins there and ends an hour before. */
+    private static void ruleDates() {
+        MomentTexts x = new MomentTexts();
+        x.zone(0);
+        for (int m = 1; m <= 12; m++) {
+            for (int w = 1; w <= 5; w++) {
+                for (int d = 0; d <= 6; d++) {
+                    ruleDate(x, "M" + m + "." + w + "." + d);
+                }
+            }
+        }
+        for (int n = 0; n <= 365; n++) {
+            ruleDate(x, Integer.toString(n));
+            if (n > 0) {
+                ruleDate(x, "J" + n);
+            }
+        }
+    }
+
+    private static void ruleDate(MomentTexts x, String date) {
+        String rule = "AAA0BBB," + date + "," + date;
+        Check.text(x, rule);
+        Check.due(rule, Check.NONE, () -> x.rule(0));
+        Model.Zone zone = new Model.Zone();
+        zone.rule(rule);
+        for (int year : new int[] {-999999, -4, 0, 1900, 2000, 2023, 2024, 2028, 999999}) {
+            long from = zone.fromMinute(year) * 60;
+            String name = rule + " in " + year;
+            Check.due(name + " before its end", 60, () -> x.offset(0, from - 3601));
+            Check.due(name + " at its end", 0, () -> x.offset(0, from - 3600));
+            Check.due(name + " before its beginning", 0, () -> x.offset(0, from - 1));
+            Check.due(name + " at its beginning", 60, () -> x.offset(0, from));
+        }
+    }
+
+    /** A first date behind its year's end: the year's beginning is where the offset changes. */
+    private static void ruleEdges() {
+        MomentTexts x = new MomentTexts();
+        x.zone(0);
+        Check.text(x, "AAA0BBB,365/24:30,J200/0");
+        x.rule(0);
+        for (int year = 2020; year < 2030; year++) {
+            long start = x.day(year, 1, 1) * 86400;
+            Check.due("the beginning of " + year, start, () -> x.next(0, start - 100 * 86400));
+            Check.due("half an hour later", start + 199 * 86400L + (year % 4 == 0 ? 86400 : 0) - 3600,
+                () -> x.next(0, start + 1800));
+        }
+    }
+
     private static void nextLimit() {
         MomentTexts x = new MomentTexts();
         x.zone(0);
@@ -152,6 +246,9 @@ public final class ZonesTest {
         Check.due("none of very many", Check.NONE, () -> x.local(0, 720, 0, Integer.MAX_VALUE));
         Check.due("before what comes twice: skipped", 0, () -> x.local(0, 689, 59, -1));
         Check.due("the first of what comes at all", 41400, () -> x.local(0, 690, 0, 0));
+        Check.due("to the beginning of the gap", 36000, () -> x.plus(0, 36000 - 86400, 0, 1));
+        Check.due("to its end", 41399, () -> x.plus(0, 41399 - 86400, 0, 1));
+        Check.due("behind its end", 41400, () -> x.plus(0, 41400 - 86400, 0, 1));
         Check.due("into the gap", 36060, () -> x.plus(0, 601 * 60 - 86400, 0, 1));
         Check.due("onto what comes twice", 36060, () -> x.plus(0, 721 * 60 - 86400, 0, 1));
         Check.due("from the second one, nothing", 36060, () -> x.plus(0, 43260, 0, 0));
@@ -167,6 +264,28 @@ public final class ZonesTest {
             int k = i;
             Check.due("the instant " + k, 300 + 600L * k, () -> z.local(0, 1005, 0, k));
         }
+    }
+
+    private static void changesInARow() {
+        MomentTexts x = new MomentTexts();
+        x.zone(0);
+        x.change(0, 36000, 60);
+        x.change(0, 36001, 180);
+        Check.due("skipped by the first", 37800, () -> x.plus(0, 37800 - 86400, 0, 1));
+        Check.due("skipped by the second", 39600, () -> x.plus(0, 43200 - 86400, 0, 1));
+        Check.due("between the two", 36000, () -> x.plus(0, 39600 - 86400, 0, 1));
+    }
+
+    private static void wholeOnes() {
+        MomentTexts x = new MomentTexts();
+        x.zone(0);
+        Check.due("a day", 1, () -> x.between(0, 0, 86400, 1));
+        Check.due("a second less", 0, () -> x.between(0, 0, 86399, 1));
+        Check.due("no seconds behind a day", 0, () -> x.between(0, 0, 86400, 2));
+        Check.due("a month", 1, () -> x.between(0, 0, 31 * 86400, 0));
+        Check.due("a second less than a month", 0, () -> x.between(0, 0, 31 * 86400 - 1, 0));
+        Check.due("the days of that", 30, () -> x.between(0, 0, 31 * 86400 - 1, 1));
+        Check.due("its seconds", 86399, () -> x.between(0, 0, 31 * 86400 - 1, 2));
     }
 
     private static void leapSeconds() {
@@ -208,6 +327,10 @@ public final class ZonesTest {
         Check.illegal("from a local time of no year back", () -> x.plus(0, last, 0, -1));
         Check.due("from the last local one", last - 3600, () -> x.plus(0, last - 3600, 0, 0));
         Check.illegal("to a local time of no year", () -> x.plus(0, last - 3600, 0, 1));
+        Check.due("a day back from there", last - 3600 - 86400, () -> x.plus(0, last - 3600, 0, -1));
+        Check.illegal("to a local time of no year at an instant of one", () -> x.plus(0, last - 86400 - 1800, 0, 1));
+        Check.illegal("from an instant of no year", () -> x.between(0, first - 1, first + 9, 0));
+        Check.illegal("to an instant of no year", () -> x.between(0, last - 7200, last + 1, 0));
         Check.illegal("to a month of no year", () -> x.plus(0, last - 3600, 1, -31));
         Check.illegal("to an instant of no year", () -> x.plus(0, first + 86400 - 3600, 0, -1));
         Check.due("to the first instant", first, () -> x.plus(0, first + 86400, 0, -1));
@@ -270,23 +393,27 @@ public final class ZonesTest {
         private final MomentTexts x = new MomentTexts();
         private final Model model = new Model();
         private final Model.Zone zone = new Model.Zone();
+        private final long base;
         private String name;
 
         RandomZones(Random random, int run) {
             this.random = random;
             this.run = run;
+            // The years 1970, 1972, 1900, 2000, 0 and the first and last hundred ones.
+            long[] days = {0, 730, -25567, 10957, -719528, -365961662L + 36525, 364522971L - 36525};
+            base = days[run % days.length];
         }
 
         void run() {
             for (int i = random.nextInt(4); i > 0; i--) {
-                long day = random.nextInt(40) - 20;
+                long day = base + random.nextInt(40) - 20;
                 if (model.leaps.add(day)) {
                     x.leap(day);
                 }
             }
             zone.first = randomOffset();
             x.zone(zone.first);
-            long instant = random.nextInt(2000000) - 1000000;
+            long instant = base * 86400 + random.nextInt(2000000) - 1000000;
             int changes = run % 3 == 0 ? 0 : random.nextInt(6);
             for (int i = 0; i < changes; i++) {
                 instant += 1 + random.nextInt(run % 2 == 0 ? 300000 : 8000);
@@ -337,20 +464,20 @@ public final class ZonesTest {
                 date = random.nextBoolean() ? "J" + (58 + random.nextInt(4)) : "" + (57 + random.nextInt(4));
             }
             int hours = random.nextInt(3) == 0 ? 24 * random.nextInt(2) : random.nextInt(25);
-            return random.nextBoolean() ? date : date + "/" + hours + (random.nextBoolean() ? ":00" : "");
+            return random.nextBoolean() ? date : date + "/" + hours + (random.nextBoolean() ? ":" + (10 + random.nextInt(50)) : "");
         }
 
         private void ask() {
-            List<Long> changes = model.changesIn(zone, -40L * 86400, 420L * 86400);
+            long start = (base - 40) * 86400;
+            List<Long> changes = model.changesIn(zone, start, (base + 420) * 86400);
             for (long change : changes) {
                 Check.due(name + "next just before", change, () -> x.next(0, change - 1));
                 near(change);
             }
             for (int i = 0; i < 20; i++) {
-                long instant = (long) ((random.nextDouble() * 900 - 400) * 86400);
+                long instant = base * 86400 + (long) ((random.nextDouble() * 900 - 400) * 86400);
                 same(instant);
             }
-            long start = -40L * 86400;
             for (int i = 0; i < changes.size(); i++) {
                 long asked = start;
                 Check.due(name + "next of " + asked, changes.get(i), () -> x.next(0, asked));
