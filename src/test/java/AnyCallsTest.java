@@ -19,7 +19,7 @@ public final class AnyCallsTest {
     public static void main(String[] args) {
         Random random = new Random(7);
         MomentTexts bystander = new MomentTexts();
-        for (int run = 0; run < 600; run++) {
+        for (int run = 0; run < 1000; run++) {
             oneRun(random);
         }
         Check.due("a bystander has no zones", 0, () -> bystander.zone(0));
@@ -34,7 +34,7 @@ public final class AnyCallsTest {
         MomentTexts x = new MomentTexts();
         MomentTexts twin = new MomentTexts();
         TextMaker maker = new TextMaker(random);
-        for (int i = 0; i < 400; i++) {
+        for (int i = 0; i < 240; i++) {
             if (random.nextInt(12) == 0) {
                 String text = maker.make(random.nextInt(8));
                 String some = text.length() > 120 ? "" : text;

@@ -10,33 +10,34 @@ public final class DaysTest {
     private static final LocalDate LAST = LocalDate.of(999999, 12, 31);
 
     public static void main(String[] args) {
-        MomentTexts x = new MomentTexts();
         for (long day = FIRST.toEpochDay(); day < FIRST.toEpochDay() + 800; day++) {
-            everyPart(x, day);
+            everyPart(day);
         }
         for (long day = LAST.toEpochDay() - 800; day <= LAST.toEpochDay(); day++) {
-            everyPart(x, day);
+            everyPart(day);
         }
         for (long day = -720500; day < 60000; day += 7) {
-            everyPart(x, day);
+            everyPart(day);
         }
         for (long day = -900; day < 20900; day++) {
-            everyPart(x, day);
+            everyPart(day);
         }
         Random random = new Random(1);
         for (int i = 0; i < 20000; i++) {
             long day = FIRST.toEpochDay() + (long) (random.nextDouble() * 730484633);
-            everyPart(x, day);
-            monthsLater(x, day, random.nextInt(i % 2 == 0 ? 100 : 24000000) - (i % 2 == 0 ? 50 : 12000000));
+            everyPart(day);
+            monthsLater(day, random.nextInt(i % 2 == 0 ? 100 : 24000000) - (i % 2 == 0 ? 50 : 12000000));
         }
-        dates(x);
-        weekDays(x);
-        wrongOnes(x);
-        easters(x);
+        dates();
+        weekDays();
+        lastDays();
+        wrongOnes();
+        easters();
         Check.end();
     }
 
-    private static void everyPart(MomentTexts x, long day) {
+    private static void everyPart(long day) {
+        MomentTexts x = new MomentTexts();
         LocalDate date = LocalDate.ofEpochDay(day);
         String name = date.toString();
         Check.due(name, day, () -> x.day(date.getYear(), date.getMonthValue(), date.getDayOfMonth()));
@@ -53,18 +54,20 @@ public final class DaysTest {
         Check.illegal(name + " date 10", () -> x.date(day, 10));
     }
 
-    private static void monthsLater(MomentTexts x, long day, int months) {
+    private static void monthsLater(long day, int months) {
+        MomentTexts x = new MomentTexts();
         LocalDate later = LocalDate.ofEpochDay(day).plus(months, ChronoUnit.MONTHS);
         boolean isOne = !later.isBefore(FIRST) && !later.isAfter(LAST);
         Check.due(day + " and " + months + " months", isOne ? later.toEpochDay() : Check.ILLEGAL,
             () -> x.months(day, months));
     }
 
-    private static void dates(MomentTexts x) {
+    private static void dates() {
         int[] years = {-1000000, -999999, -400, -100, -4, -1, 0, 1, 4, 1900, 1999, 2000, 2024, 2100, 999999, 1000000,
             Integer.MIN_VALUE, Integer.MAX_VALUE};
         for (int year : years) {
             for (int month = -1; month <= 14; month++) {
+                MomentTexts x = new MomentTexts();
                 for (int day = -1; day <= 33; day++) {
                     int m = month;
                     int d = day;
@@ -72,6 +75,7 @@ public final class DaysTest {
                 }
             }
         }
+        MomentTexts x = new MomentTexts();
         Check.illegal("the least month", () -> x.day(2000, Integer.MIN_VALUE, 1));
         Check.illegal("the most month", () -> x.day(2000, Integer.MAX_VALUE, 1));
         Check.illegal("the least day", () -> x.day(2000, 1, Integer.MIN_VALUE));
@@ -89,8 +93,9 @@ public final class DaysTest {
         }
     }
 
-    private static void weekDays(MomentTexts x) {
+    private static void weekDays() {
         for (int year = 1900; year < 2110; year++) {
+            MomentTexts x = new MomentTexts();
             int weekYear = year;
             long weeks = LocalDate.of(year, 6, 1).range(IsoFields.WEEK_OF_WEEK_BASED_YEAR).getMaximum();
             Check.due(year + " week 53", weeks == 53 ? LocalDate.of(year, 12, 28).toEpochDay()
@@ -101,6 +106,10 @@ public final class DaysTest {
             Check.illegal(year + " weekday 0", () -> x.weekDay(weekYear, 1, 0));
             Check.illegal(year + " weekday 8", () -> x.weekDay(weekYear, 1, 8));
         }
+    }
+
+    private static void lastDays() {
+        MomentTexts x = new MomentTexts();
         Check.due("the last day", LAST.toEpochDay(), () -> x.weekDay(999999, 52, 5));
         Check.illegal("the day behind it", () -> x.weekDay(999999, 52, 6));
         Check.illegal("two days behind it", () -> x.weekDay(999999, 52, 7));
@@ -113,7 +122,8 @@ public final class DaysTest {
         Check.illegal("the most weekday", () -> x.weekDay(2000, 1, Integer.MAX_VALUE));
     }
 
-    private static void wrongOnes(MomentTexts x) {
+    private static void wrongOnes() {
+        MomentTexts x = new MomentTexts();
         long[] outside = {FIRST.toEpochDay() - 1, LAST.toEpochDay() + 1, Long.MIN_VALUE, Long.MAX_VALUE};
         for (long day : outside) {
             for (int what = -1; what < 11; what++) {
@@ -134,11 +144,12 @@ public final class DaysTest {
             1999999 * 12 - 1));
     }
 
-    private static void easters(MomentTexts x) {
+    private static void easters() {
         for (int year = 0; year <= 999999; year += year < 12000 ? 1 : 37) {
             int asked = year;
-            Check.due("Easter of " + year, easterOf(year), () -> x.easter(asked));
+            Check.due("Easter of " + year, easterOf(year), () -> new MomentTexts().easter(asked));
         }
+        MomentTexts x = new MomentTexts();
         Check.due("the last Easter", easterOf(999999), () -> x.easter(999999));
         Check.illegal("Easter before 0", () -> x.easter(-1));
         Check.illegal("Easter behind all", () -> x.easter(1000000));

@@ -10,7 +10,7 @@ public final class InstantsTest {
         leapDays();
         edges();
         Random random = new Random(2);
-        for (int run = 0; run < 60; run++) {
+        for (int run = 0; run < 240; run++) {
             randomRun(random);
         }
         Check.end();
@@ -90,7 +90,7 @@ public final class InstantsTest {
             boolean isNew = model.leaps.add(day);
             Check.due("leap " + day, isNew ? model.leaps.size() : Check.ILLEGAL, () -> x.leap(day));
         }
-        for (int i = 0; i < 400; i++) {
+        for (int i = 0; i < 100; i++) {
             long minute = (random.nextInt(90) - 45) * 1440L + (i % 2 == 0 ? 1439 : random.nextInt(1440));
             int second = i % 3 == 0 ? 60 : random.nextInt(60);
             boolean isOne = second <= model.lastSecond(minute);

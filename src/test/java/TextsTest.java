@@ -17,7 +17,7 @@ public final class TextsTest {
         rules();
         instantsStay();
         Random random = new Random(5);
-        for (int run = 0; run < 400; run++) {
+        for (int run = 0; run < 3000; run++) {
             randomRun(random);
         }
         Check.end();
@@ -395,7 +395,7 @@ public final class TextsTest {
         x.zone(0);
         TextModel texts = new TextModel(model);
         TextMaker maker = new TextMaker(random);
-        for (int i = 0; i < 60; i++) {
+        for (int i = 0; i < 8; i++) {
             int made = random.nextInt(8);
             String text = maker.make(made);
             for (int changed = random.nextInt(3); changed > 0; changed--) {

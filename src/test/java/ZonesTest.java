@@ -86,12 +86,12 @@ public final class ZonesTest {
 
     private static void likeJavaTime(String id, String rule) {
         ZoneRules rules = ZoneId.of(id).getRules();
-        MomentTexts x = new MomentTexts();
-        x.zone(1);
-        Check.text(x, rule);
-        Check.due("the rule of " + id, Check.NONE, () -> x.rule(0));
         Random random = new Random(4);
         for (int i = 0; i < 3000; i++) {
+            MomentTexts x = new MomentTexts();
+            x.zone(1);
+            Check.text(x, rule);
+            Check.due("the rule of " + id, Check.NONE, () -> x.rule(0));
             long instant = 1230768000L + (long) (random.nextDouble() * 80 * 365 * 86400);
             Instant at = Instant.ofEpochSecond(instant);
             Check.due(id + " at " + at, rules.getOffset(at).getTotalSeconds() / 60, () -> x.offset(0, instant));
@@ -169,24 +169,24 @@ public final class ZonesTest {
 
     /** Every date that a rule can have: the second offset begins there and ends an hour before. */
     private static void ruleDates() {
-        MomentTexts x = new MomentTexts();
-        x.zone(0);
         for (int m = 1; m <= 12; m++) {
             for (int w = 1; w <= 5; w++) {
                 for (int d = 0; d <= 6; d++) {
-                    ruleDate(x, "M" + m + "." + w + "." + d);
+                    ruleDate("M" + m + "." + w + "." + d);
                 }
             }
         }
         for (int n = 0; n <= 365; n++) {
-            ruleDate(x, Integer.toString(n));
+            ruleDate(Integer.toString(n));
             if (n > 0) {
-                ruleDate(x, "J" + n);
+                ruleDate("J" + n);
             }
         }
     }
 
-    private static void ruleDate(MomentTexts x, String date) {
+    private static void ruleDate(String date) {
+        MomentTexts x = new MomentTexts();
+        x.zone(0);
         String rule = "AAA0BBB," + date + "," + date;
         Check.text(x, rule);
         Check.due(rule, Check.NONE, () -> x.rule(0));
@@ -390,7 +390,9 @@ public final class ZonesTest {
     private static final class RandomZones {
         private final Random random;
         private final int run;
-        private final MomentTexts x = new MomentTexts();
+        /** Made anew again and again: an object is used for 512 calls. */
+        private MomentTexts x = new MomentTexts();
+        private String rule = "";
         private final Model model = new Model();
         private final Model.Zone zone = new Model.Zone();
         private final long base;
@@ -406,31 +408,38 @@ public final class ZonesTest {
 
         void run() {
             for (int i = random.nextInt(4); i > 0; i--) {
-                long day = base + random.nextInt(40) - 20;
-                if (model.leaps.add(day)) {
-                    x.leap(day);
-                }
+                model.leaps.add(base + random.nextInt(40) - 20);
             }
             zone.first = randomOffset();
-            x.zone(zone.first);
             long instant = base * 86400 + random.nextInt(2000000) - 1000000;
             int changes = run % 3 == 0 ? 0 : random.nextInt(6);
             for (int i = 0; i < changes; i++) {
                 instant += 1 + random.nextInt(run % 2 == 0 ? 300000 : 8000);
-                int offset = randomOffset();
                 zone.instants.add(instant);
-                zone.offsets.add(offset);
-                x.change(0, instant, offset);
+                zone.offsets.add(randomOffset());
             }
             if (run % 3 != 1) {
-                String rule = randomRule();
+                rule = randomRule();
                 zone.rule(rule);
+            }
+            name = "run " + run + " " + rule + " changes " + zone.instants + zone.offsets + " leaps " + model.leaps
+                + ": ";
+            ask();
+        }
+
+        private void makeAnew() {
+            x = new MomentTexts();
+            for (long day : model.leaps) {
+                x.leap(day);
+            }
+            x.zone(zone.first);
+            for (int i = 0; i < zone.instants.size(); i++) {
+                x.change(0, zone.instants.get(i), zone.offsets.get(i));
+            }
+            if (!rule.isEmpty()) {
                 Check.text(x, rule);
                 Check.due(rule, Check.NONE, () -> x.rule(0));
             }
-            name = "run " + run + (zone.rule == null ? "" : " " + zone.rule.group()) + " changes "
-                + zone.instants + zone.offsets + " leaps " + model.leaps + ": ";
-            ask();
         }
 
         private int randomOffset() {
@@ -471,9 +480,11 @@ public final class ZonesTest {
             long start = (base - 40) * 86400;
             List<Long> changes = model.changesIn(zone, start, (base + 420) * 86400);
             for (long change : changes) {
+                makeAnew();
                 Check.due(name + "next just before", change, () -> x.next(0, change - 1));
                 near(change);
             }
+            makeAnew();
             for (int i = 0; i < 20; i++) {
                 long instant = base * 86400 + (long) ((random.nextDouble() * 900 - 400) * 86400);
                 same(instant);
