@@ -13,6 +13,7 @@ public final class EdgesOfReckoningTest {
         promise25Skipped();
         promise25SkippedMidMinute();
         promise25SkippedByRule();
+        promise25SkippedBehindAllChanges();
         promise25FirstOfTwice();
         promise25Second60();
         promise25Second60Skipped();
@@ -116,6 +117,21 @@ public final class EdgesOfReckoningTest {
         Check.text(x, "CET-1");
         x.rule(1);
         Check.due("skipped by a change to a rule's OFFSET", change + 1800, () -> x.plus(1, change - 86400 + 1800, 0, 1));
+    }
+
+    /** 60 changes in the day before, and then one by the rule. */
+    private static void promise25SkippedBehindAllChanges() {
+        MomentTexts x = withZone(0);
+        for (int i = 1; i <= 60; i++) {
+            x.change(0, 9 * 86400 + 36000 + 60L * i, i % 2);
+        }
+        Check.text(x, "AAA0BBB,J11,J200");
+        x.rule(0);
+        long change = 10 * 86400 + 7200;
+        plus(x, "just before what is skipped", change - 86401, 0, 1, change - 1);
+        plus(x, "the first that is skipped", change - 86400, 0, 1, change);
+        plus(x, "the last that is skipped", change - 86400 + 3599, 0, 1, change + 3599);
+        plus(x, "just behind it", change - 86400 + 3600, 0, 1, change);
     }
 
     private static void promise25FirstOfTwice() {

@@ -240,6 +240,14 @@ public final class EdgesOfRulesTest {
         Check.due("a FAULT: the old rule stays", 180, () -> x.offset(0, 86400 * 9));
         rule(x, "ABC-3DEF,0/0,36x", 15);
         Check.due("a FAULT: the old rule stays", 180, () -> x.offset(0, 86400 * 9));
+        rule(x, "ABC-3DEF-5,J200,J100", NONE);
+        Check.due("another rule, the same year", 300, () -> x.offset(0, 86400 * 9));
+        rule(x, "ABC-3DEF-5,M3.5.0,M10.5.0", NONE);
+        Check.due("another rule with other dates, the same year", 180, () -> x.offset(0, 86400 * 9));
+        Check.due("and in summer", 300, () -> x.offset(0, 86400 * 180));
+        rule(x, "ABC-3DEF-5,59/0,300", NONE);
+        Check.due("a rule with dates that are counted", 180, () -> x.offset(0, 86400 * 59 - 10801));
+        Check.due("from its first date on", 300, () -> x.offset(0, 86400 * 59 - 10800));
         rule(x, "ABC-4", NONE);
         Check.due("one NAME in place of two", 240, () -> x.offset(0, 86400 * 9));
         Check.due("no changes more", NONE, () -> x.next(0, 0));
@@ -405,6 +413,11 @@ public final class EdgesOfRulesTest {
         offsetAt(late, 2024, 1, -1, 0);
         offsetAt(late, 2024, 1, 0, 60);
         offsetAt(late, 2024, 1, 29, 60);
+        // Both dates are behind the year's end, the second one later: the second OFFSET is in no year.
+        String never = "AAA0BBB1,365/24,365/24:30";
+        offsetAt(never, 2024, 1, -1, 0);
+        offsetAt(never, 2024, 1, 0, 0);
+        offsetAt(never, 2024, 1, 89, 0);
         offsetAt("AAA0BBB,0/0,365/24", 999999, 365, 1439, 0);
         offsetAt("AAA0BBB,0/0,365/24", 999999, 365, 1379, 60);
         offsetAt("AAA-1BBB,0/0,J100", 999999, 365, 1439, 120);

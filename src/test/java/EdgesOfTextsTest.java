@@ -10,6 +10,7 @@ public final class EdgesOfTextsTest {
         promise18Clear();
         promise19FieldsStay();
         promise19Refused();
+        promise19NothingOfOlderTexts();
         form0Bytes();
         form0Numbers();
         form1Bytes();
@@ -150,6 +151,40 @@ public final class EdgesOfTextsTest {
         Check.due("the TEXT stays", 4, x::clear);
     }
 
+    /** What a longer text told is not in the fields of a shorter one that is read behind it. */
+    private static void promise19NothingOfOlderTexts() {
+        MomentTexts x = new MomentTexts();
+        read(x, 3, "-000004-12-31T23:59:58.5-11:30", NONE);
+        read(x, 1, "2024", NONE);
+        fields(x, 0, 1, 3, 19723);
+        read(x, 1, "2024-W52-7", NONE);
+        read(x, 1, "2024-W01", NONE);
+        fields(x, 0, 1, 5, 19723);
+        read(x, 1, "2024-12-31", NONE);
+        read(x, 1, "2024-01", NONE);
+        fields(x, 0, 1, 4, 19723);
+        read(x, 2, "23:59:58.5-11:30", NONE);
+        read(x, 2, "12", NONE);
+        fields(x, 0, 2, NONE, NONE, 720, 0, 0);
+        read(x, 2, "23:59-11:30", NONE);
+        read(x, 2, "12+05", NONE);
+        fields(x, 0, 2, NONE, NONE, 720, 0, 0, 300, 0);
+        read(x, 3, "-000004-W01-1T12", NONE);
+        read(x, 0, "2024-01-01T00:00:00Z", NONE);
+        fields(x, 0, 0, 0, 19723, 0, 0, 0, 0, 1, 19723L * 86400);
+        read(x, 4, "P1Y2M3DT4H5M6.7S", NONE);
+        read(x, 4, "PT1S", NONE);
+        fields(x, 0, 4, NONE, NONE, NONE, NONE, NONE, NONE, NONE, NONE, 0, 0, 1, 0);
+        read(x, 4, "P5W", NONE);
+        read(x, 4, "P1M", NONE);
+        fields(x, 0, 4, NONE, NONE, NONE, NONE, NONE, NONE, NONE, NONE, 1, 0, 0, 0);
+        read(x, 4, "P1.5D", NONE);
+        read(x, 4, "P1DT1S", NONE);
+        fields(x, 0, 4, NONE, NONE, NONE, NONE, NONE, NONE, NONE, NONE, 0, 1, 1, 0);
+        read(x, 5, "-000004-W01-2T23:59:58.5-11:30/20240101T00", NONE);
+        fields(x, 1, 3, 0, 19723, 0, 0, 0);
+    }
+
     private static void read(MomentTexts x, int form, String text, long want) {
         Check.text(x, text);
         Check.due("the FAULT of " + text + " as form " + form, want, () -> x.read(form));
@@ -271,6 +306,10 @@ public final class EdgesOfTextsTest {
         faults(1, "2024-13", 5);
         faults(1, "20241301", 4);
         faults(1, "20240100", 6);
+        faults(1, "20240099", 4);
+        faults(1, "20240199", 6);
+        faults(1, "20241299", 6);
+        faults(1, "20249999", 4);
         faults(1, "20230229", 6);
         faults(1, "2024-04-31", 8);
         faults(1, "2024-000", 5);

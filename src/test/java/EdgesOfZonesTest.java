@@ -24,6 +24,8 @@ public final class EdgesOfZonesTest {
         promise15Changes();
         promise15Limit();
         promise15Rule();
+        promise15RuleBehindAllChanges();
+        promise15RuleAtYearsEnds();
         promise15Edges();
         promise15Refused();
         Check.end();
@@ -319,6 +321,53 @@ public final class EdgesOfZonesTest {
         x.zone(0);
         giveRule(x, 4, "AAA0BBB0,J100/0,J200/0");
         next(x, 4, 0, Check.NONE);
+        x.zone(0);
+        giveRule(x, 5, "AAA0BBB1,365/24,365/24:30");
+        next(x, 5, 0, Check.NONE);
+    }
+
+    /** What the rule would do before the last change does not count. */
+    private static void promise15RuleBehindAllChanges() {
+        MomentTexts x = withZone(0);
+        giveRule(x, 0, "AAA0BBB,J100/0,J200/0");
+        long second = (99L * 1440) * 60;
+        long first = (199L * 1440 - 60) * 60;
+        for (int i = 1; i <= 60; i++) {
+            x.change(0, first + i, 0);
+        }
+        next(x, 0, 0, second + 365 * 86400L);
+        next(x, 0, first, second + 365 * 86400L);
+        next(x, 0, first + 60, second + 365 * 86400L);
+    }
+
+    private static void promise15RuleAtYearsEnds() {
+        MomentTexts x = withZone(0);
+        // East of UTC by five hours: the year begins so much earlier. Its first date is behind the year's end.
+        giveRule(x, 0, "AAA-5BBB,365/24:30,J200/0");
+        long begin = -5 * 3600;
+        long end = 199L * 86400 - 6 * 3600;
+        next(x, 0, begin - 1, begin);
+        next(x, 0, begin - 100 * 86400, begin);
+        next(x, 0, begin, end);
+        next(x, 0, 0, end);
+        next(x, 0, end, begin + 365L * 86400);
+        x.zone(0);
+        // West of UTC: the second date is before the year's beginning, by UTC.
+        giveRule(x, 1, "AAA5BBB,J200/0,0/0");
+        begin = 5 * 3600;
+        long from = 199L * 86400 + 5 * 3600;
+        next(x, 1, 0, begin);
+        next(x, 1, begin, from);
+        next(x, 1, from, begin + 365L * 86400);
+        x.zone(0);
+        // 1972 has a day 365 of its own. In the years round it that is day 364, and both minutes are the same: then
+        // the second OFFSET counts always.
+        giveRule(x, 2, "AAA0BBB,364/0,365/1");
+        next(x, 2, 0, 730L * 86400);
+        next(x, 2, 730L * 86400, (730L + 364) * 86400);
+        next(x, 2, (730L + 364) * 86400, (730L + 365) * 86400);
+        next(x, 2, (730L + 365) * 86400, (730L + 366) * 86400);
+        next(x, 2, (730L + 366) * 86400, (730L + 1461) * 86400);
     }
 
     private static void promise15Edges() {
