@@ -419,8 +419,9 @@ public final class MomentTexts {
     }
 
     private long instantOfSkipped(Zone zone, long minute, int second) {
-        // A day before, by UTC, no offset brings the local reading up to the minute.
-        long instant = leaps.instantOf(Math.max(minute - DAY_MINUTES, Days.LEAST_MINUTE), 0);
+        // A day before, by UTC, no offset brings the local reading up to the minute. One less than the first of
+        // all instants: a change can be at that one, too.
+        long instant = leaps.instantOf(Math.max(minute - DAY_MINUTES, Days.LEAST_MINUTE), 0) - 1;
         for (int i = 0; i < 2 * MOST_CHANGES; i++) {
             long change = zone.changeBehind(instant);
             if (change == NONE) {

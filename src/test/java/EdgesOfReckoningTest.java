@@ -14,6 +14,7 @@ public final class EdgesOfReckoningTest {
         promise25SkippedMidMinute();
         promise25SkippedByRule();
         promise25SkippedBehindAllChanges();
+        promise25SkippedAtTheFirstInstant();
         promise25FirstOfTwice();
         promise25Second60();
         promise25Second60Skipped();
@@ -132,6 +133,37 @@ public final class EdgesOfReckoningTest {
         plus(x, "the first that is skipped", change - 86400, 0, 1, change);
         plus(x, "the last that is skipped", change - 86400 + 3599, 0, 1, change + 3599);
         plus(x, "just behind it", change - 86400 + 3600, 0, 1, change);
+    }
+
+    /** A change at the first instant of all: what it skips comes by the OFFSET before it all the same. */
+    private static void promise25SkippedAtTheFirstInstant() {
+        MomentTexts x = withZone(0);
+        x.change(0, FIRST, 60);
+        long day = 86400;
+        plus(x, "the first local minute is skipped", FIRST + day - 3600, 0, -1, FIRST);
+        plus(x, "in the middle", FIRST + day - 1800, 0, -1, FIRST + 1800);
+        plus(x, "the last that is skipped", FIRST + day - 1, 0, -1, FIRST + 3599);
+        plus(x, "just behind it", FIRST + day, 0, -1, FIRST);
+        between(x, "from there", FIRST, FIRST + day, 0, 1, 0);
+        MomentTexts behind = withZone(0);
+        behind.change(0, FIRST + 1, 60);
+        plus(behind, "a change a second later: the first is not skipped", FIRST + day - 3600, 0, -1, FIRST);
+        plus(behind, "the first that is", FIRST + day - 3599, 0, -1, FIRST + 1);
+        MomentTexts leapt = withZone(0);
+        leapt.leap(FIRST_DAY);
+        leapt.change(0, FIRST - 1, 60);
+        plus(leapt, "with a leap day there", FIRST + day - 1801, 0, -1, FIRST - 1 + 1800);
+        MomentTexts west = withZone(-60);
+        west.change(0, FIRST, 60);
+        plus(west, "by an OFFSET west of UTC", FIRST + day - 1800, 0, -1, FIRST + 1800 + 3600);
+        MomentTexts east = withZone(30);
+        east.change(0, FIRST, 60);
+        plus(east, "the instant by the OFFSET before is of no YEAR", FIRST + day - 3000, 0, -1, Check.ILLEGAL);
+        plus(east, "that one is", FIRST + day - 1800, 0, -1, FIRST);
+        MomentTexts ruled = withZone(0);
+        Check.text(ruled, "AAA0BBB,J1/0,J200");
+        ruled.rule(0);
+        plus(ruled, "by a rule", FIRST + day - 1800, 0, -1, FIRST + 1800);
     }
 
     private static void promise25FirstOfTwice() {

@@ -227,7 +227,7 @@ final class Model {
     }
 
     private long plusSkipped(Zone zone, long goal, int second) {
-        long start = instantOf(Math.max(goal - 1500, FIRST_MINUTE), 0);
+        long start = instantOf(Math.max(goal - 1500, FIRST_MINUTE), 0) - 1;
         for (long change : changesIn(zone, start, instantOf(goal + 1500, 0))) {
             int before = offsetAt(zone, change - 1);
             boolean isUpTo = isBefore(minuteAt(change - 1) + before, secondAt(change - 1), goal, second);
